@@ -944,6 +944,23 @@ public final class KeyFinderPromisesTest {
         due(k.told(4), 0);
         due(k.step(0), NONE);
         due(k.follows(0, 0), 1);
+        // As many STEPS as there can be: each law brings one column of eight, the last told first.
+        k = telling(8, 64, 128, 32, 64, 16, 32, 8, 16, 4, 8, 2, 4, 1, 2, 0, 1, 0, 128);
+        due(k.closure(0), 255);
+        due(k.unlaw(8), 1);
+        due(k.closure(0), 255);
+        due(k.follows(0, 128), 1);
+        due(k.told(4), 8);
+        due(k.step(0), 7);
+        due(k.step(7), 0);
+        due(k.law(0, 0, 128), 9);
+        // No law needs its X, and of the two that tell 7 the earlier one goes.
+        due(k.cover(), 8);
+        cover(k, 0, 6, 0, 5, 0, 4, 0, 3, 0, 2, 0, 1, 0, 0, 0, 7);
+        // 0 to 7 follows only by all the others, the last of them first.
+        k = telling(8, 1, 128, 64, 128, 32, 64, 16, 32, 8, 16, 4, 8, 2, 4, 1, 2);
+        due(k.cover(), 7);
+        cover(k, 64, 7, 32, 6, 16, 5, 8, 4, 4, 3, 2, 2, 1, 1);
     }
 
     private static void keysOf() {
