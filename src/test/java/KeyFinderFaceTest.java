@@ -1,4 +1,5 @@
 import java.io.IOException;
+import java.lang.management.ManagementFactory;
 import java.lang.reflect.Constructor;
 import java.lang.reflect.Field;
 import java.lang.reflect.Method;
@@ -24,9 +25,13 @@ public final class KeyFinderFaceTest {
     private static final String[] CONSTANTS = {
         "int UNKNOWN", "int OUTSIDE", "int STATE", "int FULL", "int NONE", "long LOST"};
     private static final String[] RULED_OUT = {
-        "\\bcatch\\b", "\\btry\\b", "\\bthrow\\b", "\\bfinally\\b", "->", "::", "\\bsynchronized\\b", "\\bassert\\b",
-        "\\bwhile\\b", "Exact\\b", "\\bSystem\\.(?!arraycopy)", "\\bDouble\\b", "\\bdouble\\b", "\\bfloat\\b",
-        "import (?!java\\.util\\.Arrays;)", "\\bpackage\\b", "[^\\x00-\\x7f]"};
+        "\\bfinally\\b", "(?m)^(?!\\s*(case|default)\\b).*->", "::", "\\bsynchronized\\b", "\\bassert\\b", "Exact\\b",
+        "\\bSystem\\.(?!arraycopy)", "\\bDouble\\b", "\\bThread\\b", "\\bRandom\\b", "\\bpackage\\b", "[^\\x00-\\x7f]",
+        "import (?!java\\.util\\.(Arrays|ArrayList|List|Iterator|NoSuchElementException);)",
+        "catch\\s*\\([^)]*\\b(Throwable|Error|Exception|NullPointerException|ClassCastException"
+            + "|ArrayIndexOutOfBoundsException|NegativeArraySizeException|ArrayStoreException)\\b"};
+    /** Bytes that an object and its 512 dearest calls may take: far below the room that all calls of a run share. */
+    private static final long ROOM = 4_000_000;
 
     private static int wrong = 0;
 
@@ -49,6 +54,7 @@ public final class KeyFinderFaceTest {
             due(Modifier.isStatic(inner.getModifiers()), inner + " is not static");
         }
         text();
+        room();
         System.out.println(wrong == 0 ? "face: as the document has it" : "face: " + wrong + " faults");
         if (wrong != 0) {
             System.exit(1);
@@ -80,8 +86,8 @@ public final class KeyFinderFaceTest {
 
     private static void noOtherOfThatName(Class<?> owner, TreeSet<String> names) {
         for (Method m : owner.getDeclaredMethods()) {
-            boolean ofFace = owner == KeyFinder.class && Modifier.isPublic(m.getModifiers());
-            due(ofFace || !names.contains(m.getName()), owner.getSimpleName() + " has another " + m.getName());
+            boolean isPrivate = Modifier.isPrivate(m.getModifiers());
+            due(!isPrivate || !names.contains(m.getName()), owner.getSimpleName() + " has another " + m.getName());
             due(m.getParameterCount() <= 7, m + " takes too many");
         }
     }
@@ -109,11 +115,52 @@ public final class KeyFinderFaceTest {
             Matcher m = Pattern.compile(ruled).matcher(code);
             due(!m.find(), "the text has what is ruled out: " + ruled);
         }
-        // Whatever is made is made with the object: no call may use up the room that all calls share.
-        for (String line : code.split("\n")) {
-            boolean field = line.matches(" {4,8}(private )?final \\S+ \\S+ = new .*;");
-            boolean constructor = line.matches(" {8,12}\\S+ = new \\w+[(\\[].*;");
-            due(!line.contains("new ") || field || constructor, "made outside a constructor: " + line.trim());
+    }
+
+    private static void room() {
+        if (!(ManagementFactory.getThreadMXBean() instanceof com.sun.management.ThreadMXBean)) {
+            return;
+        }
+        com.sun.management.ThreadMXBean counter = (com.sun.management.ThreadMXBean) ManagementFactory.getThreadMXBean();
+        dearest();
+        long before = counter.getThreadAllocatedBytes(Thread.currentThread().getId());
+        dearest();
+        long taken = counter.getThreadAllocatedBytes(Thread.currentThread().getId()) - before;
+        due(taken < ROOM, "an object and 512 calls take " + taken + " bytes");
+    }
+
+    /** 24 rows of eight columns and many laws: then what is dearest to answer, again and again. */
+    private static void dearest() {
+        KeyFinder k = new KeyFinder();
+        k.width(8);
+        k.table(0, true);
+        for (int c = 0; c < 8; c++) {
+            k.column(0, 0);
+        }
+        k.rows(0, 24);
+        for (int r = 0; r < 24; r++) {
+            for (int c = 0; c < 8; c++) {
+                k.put(0, r, c, r >> c % 5 & 1);
+            }
+        }
+        for (int law = 0; law < 39; law++) {
+            k.law(0, law * 37 % 255, 255);
+        }
+        k.law(2, 1, 2);
+        for (int n = 0; n < 20; n++) {
+            k.unlaw(n);
+            k.find(0);
+            k.hold(0, 39);
+            k.keys();
+            k.cover();
+            k.third();
+            k.strict();
+            k.form(255);
+            k.lossless();
+            k.lack();
+            k.project(0, 255, 1);
+            k.join(0, 255, 1, 255, 2);
+            k.misses(0, 0, 255);
         }
     }
 }

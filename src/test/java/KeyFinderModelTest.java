@@ -46,7 +46,8 @@ public final class KeyFinderModelTest {
             if (tables) {
                 fillTables();
             }
-            while (history.size() < CALLS && wrong == 0) {
+            // A hold() is followed by a broken().
+            while (history.size() < CALLS - 1 && wrong == 0) {
                 int dice = random.nextInt(100);
                 if (dice < (tables ? 55 : 10)) {
                     tableCall();
@@ -291,7 +292,7 @@ public final class KeyFinderModelTest {
                     break;
                 case 2: {
                     int as = wild(6);
-                    int what = wild(3);
+                    int what = model.hasOpenY(law) ? 2 * below(2) : wild(3);
                     due("say(" + law + "," + as + "," + what + ")", real.say(law, as, what), model.say(law, as, what));
                     break;
                 }
@@ -719,6 +720,11 @@ public final class KeyFinderModelTest {
 
         boolean noLaw(int law) {
             return law < 0 || law >= laws.size();
+        }
+
+        /** What the Y of a KEY and of a NEVER is told as, the document leaves open. */
+        boolean hasOpenY(int law) {
+            return !noLaw(law) && (laws.get(law).kind == 1 || laws.get(law).kind == 3);
         }
 
         int unlaw(int law) {

@@ -50,6 +50,18 @@ public final class KeyFinderPartsTest extends Sentences {
         due(k.width(1), 4);
         due(k.third(), 1);
         partsAre(k, 1);
+        // Of a group, and of groups, that were there before, nothing is left.
+        k = telling(4, 1, 2, 1, 4);
+        due(k.third(), 2);
+        partsAre(k, 7, 9);
+        due(k.unlaw(1), 1);
+        due(k.third(), 2);
+        partsAre(k, 3, 13);
+        k = telling(3, 4, 1, 3, 4);
+        due(k.third(), 1);
+        due(k.unlaw(1), 1);
+        due(k.third(), 2);
+        partsAre(k, 5, 6);
         // Eleven, and the KEY: twelve is not too many.
         k = telling(8, pairsThatTell(11));
         due(k.third(), 12);
@@ -99,6 +111,13 @@ public final class KeyFinderPartsTest extends Sentences {
         due(k.strict(), 2);
         partsAre(k, 3, 13);
         due(k.width(2), 4);
+        due(k.strict(), 1);
+        partsAre(k, 3);
+        // Of what third() made before, and of a larger WIDTH, nothing is left.
+        k = telling(8, 64, 128, 4, 3);
+        due(k.third(), 3);
+        partsAre(k, 192, 7, 124);
+        due(k.width(2), 8);
         due(k.strict(), 1);
         partsAre(k, 3);
         // Twelve are not too many.

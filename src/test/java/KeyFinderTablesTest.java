@@ -5,6 +5,7 @@ public final class KeyFinderTablesTest extends Sentences {
     public static void main(String[] args) {
         newObject();
         table();
+        nothingOfWhatWasThere();
         drop();
         column();
         columnRefusals();
@@ -113,6 +114,43 @@ public final class KeyFinderTablesTest extends Sentences {
             refused(Sentences::lived, f -> f.table(t, false), UNKNOWN);
             refused(Sentences::fresh, f -> f.table(t, true), UNKNOWN);
         }
+    }
+
+    private static void nothingOfWhatWasThere() {
+        of(2, "A TABLE without columns, rows, in place of what was there;");
+        // A fourth row, which is there no more, would make SEVERAL hold.
+        Finder k = with(true, cells(1, 1, 1), cells(1, 2, 2), cells(1, 1, 2), cells(1, 2, 1), cells(null, 0, 0));
+        fill(k, 0, true, INTS, cells(1, 1, 1), cells(1, 2, 2), cells(1, 1, 2));
+        int[][] laws = {{TELLS, 6, 1}, {KEY, 6, 0}, {SEVERAL, 1, 2}, {NEVER, 7, 0}, {ORDER, 2, 4}, {WITHIN, 6, 1}};
+        for (int law = 0; law < 6; law++) {
+            due(k.law(laws[law][0], laws[law][1], laws[law][2]), law);
+        }
+        fill(k, 1, true, INTS, cells(1, 1, 2), cells(1, 1, 1), cells(1, 2, 2));
+        int[] holds = {1, 1, 0, 1, 0, 1};
+        for (int law = 0; law < 6; law++) {
+            due(k.hold(0, law), holds[law]);
+        }
+        due(k.misses(0, 1, 2), 1);
+        due(k.twice(0, 2, 0), 1);
+        due(k.find(0), 1);
+        foundAre(k, 0, 0);
+        due(k.project(0, 6, 2), 3);
+        due(k.join(0, 7, 1, 7, 2), 3);
+        // Of a TABLE Y, too.
+        fill(k, 1, true, INTS, cells(1, 1, 2), cells(1, 1, 1));
+        due(k.hold(0, 5), 0);
+        breaksAt(k, 1, NONE);
+        // Two rows are ordered, a third, that stood behind them, was not.
+        due(k.law(ORDER, 1, 2), 6);
+        for (Long[] third : new Long[][] {cells(3, 0), cells(0, 5)}) {
+            fill(k, 0, true, INTS, cells(1, 1), cells(2, 2), third);
+            due(k.hold(0, 6), 0);
+            fill(k, 0, true, INTS, cells(1, 1), cells(2, 2));
+            due(k.hold(0, 6), 1);
+        }
+        fill(k, 3, true, INTS, cells(2, 2), cells(1, 1));
+        due(k.law(WITHIN, 3, 3), 7);
+        due(k.hold(0, 7), 1);
     }
 
     private static void drop() {

@@ -739,11 +739,37 @@ public final class KeyFinderTermsTest extends Sentences {
         breaksAt(holdsIn(unlike, WITHIN, 2, 1, 0), 0, NONE);
         breaksAt(holdsIn(unlike, WITHIN, 3, 1, 0), 0, NONE);
         holdsIn(unlike, WITHIN, 0, 1, 1);
+        // In the first column, and in the last of eight.
+        for (int c = 0; c < 8; c += 7) {
+            for (int lane = 0; lane < 6; lane++) {
+                Finder k = new Finder();
+                eightColumns(k, 0, c, INTS);
+                eightColumns(k, 1, c, lane);
+                due(k.law(WITHIN, 1 << c, 1), 0);
+                due(k.law(WITHIN, 255, 1), 1);
+                due(k.law(WITHIN, 255 - (1 << c), 1), 2);
+                due(k.hold(0, 0), lane == INTS ? 1 : 0);
+                due(k.hold(0, 1), lane == INTS ? 1 : 0);
+                due(k.hold(0, 2), 1);
+            }
+        }
         // Rows that are not asked do not break it.
         holdsIn(k -> {
             unlike.on(k);
             due(k.miss(0, 0, 1), 1);
         }, WITHIN, 2, 1, 1);
+    }
+
+    /** One row of eight cells, each with a 1; one column is of another LANE than the bytes beside it. */
+    private static void eightColumns(Finder k, int t, int other, int lane) {
+        due(k.table(t, true), 1);
+        for (int c = 0; c < 8; c++) {
+            due(k.column(t, c == other ? lane : BYTES), c);
+        }
+        due(k.rows(t, 1), 1);
+        for (int c = 0; c < 8; c++) {
+            due(k.put(t, 0, c, 1), 1);
+        }
     }
 
     private static void whereLawsBreak() {

@@ -2,6 +2,7 @@ import java.io.IOException;
 import java.nio.file.Files;
 import java.nio.file.Path;
 import java.util.ArrayList;
+import java.util.Arrays;
 import java.util.HashMap;
 import java.util.List;
 import java.util.Map;
@@ -51,7 +52,7 @@ class Sentences {
                 complain("the document does not say \"" + quote + "\"");
             }
             for (int from = at; from >= 0; from = text.indexOf(quote, from + 1)) {
-                java.util.Arrays.fill(named.get(place), from, from + quote.length(), true);
+                Arrays.fill(named.get(place), from, from + quote.length(), true);
             }
         }
     }
