@@ -202,7 +202,7 @@ public final class KeyFinder {
         }
         // Y of a KEY and of a NEVER must not depend on a y that nobody may look at.
         int number = laws.add(kind, x, looksAtY(kind) ? y : 0);
-        takeForce();
+        renewForce();
         return number;
     }
 
@@ -214,7 +214,7 @@ public final class KeyFinder {
             return 0;
         }
         laws.dropped[law] = true;
-        takeForce();
+        renewForce();
         return 1;
     }
 
@@ -301,7 +301,7 @@ public final class KeyFinder {
         }
         int before = theory.columnCount;
         theory.widen(n);
-        takeForce();
+        renewForce();
         parts.count = 0;
         return before;
     }
@@ -507,7 +507,7 @@ public final class KeyFinder {
         return table.hasColumns(x | y) ? 0 : STATE;
     }
 
-    private void takeForce() {
+    private void renewForce() {
         theory.takeForce(laws);
         lawCover.stands = false;
     }

@@ -6,30 +6,15 @@ import java.lang.reflect.Method;
 import java.lang.reflect.Modifier;
 import java.nio.file.Files;
 import java.nio.file.Path;
+import java.util.Random;
 import java.util.TreeSet;
 import java.util.regex.Matcher;
 import java.util.regex.Pattern;
 
-/** The face of the class is the document's, and its text keeps to rules of LANGUAGE.md that can be read off. */
+/** The face of the class is the one that the document writes out; nothing is ever thrown; calls take little room. */
 public final class KeyFinderFaceTest {
-    private static final String[] FACE = {
-        "int table(int,boolean)", "int drop(int)", "int column(int,int)", "int rows(int,int)",
-        "int put(int,int,int,long)", "int miss(int,int,int)", "long at(int,int,int,int)",
-        "int copy(int,int,int,int,int,int)", "int about(int,int)", "int like(int,int,int,int)",
-        "int law(int,int,int)", "int unlaw(int)", "int say(int,int,int)", "int hold(int,int)", "int broken(int)",
-        "int find(int)", "int found(int,int)", "int misses(int,int,int)", "int twice(int,int,int)",
-        "int width(int)", "int closure(int)", "int follows(int,int)", "int step(int)", "int keys()", "int key(int)",
-        "int prime()", "int cover()", "int covered(int,int)", "int third()", "int strict()", "int part(int)",
-        "int unpart()", "int parted(int)", "int form(int)", "int lossless()", "int lack()", "int keeps(int)",
-        "int project(int,int,int)", "int join(int,int,int,int,int)", "int fault()", "int told(int)"};
-    private static final String[] CONSTANTS = {
-        "int UNKNOWN", "int OUTSIDE", "int STATE", "int FULL", "int NONE", "long LOST"};
-    private static final String[] RULED_OUT = {
-        "\\bfinally\\b", "(?m)^(?!\\s*(case|default)\\b).*->", "::", "\\bsynchronized\\b", "\\bassert\\b", "Exact\\b",
-        "\\bSystem\\.(?!arraycopy)", "\\bDouble\\b", "\\bThread\\b", "\\bRandom\\b", "\\bpackage\\b", "[^\\x00-\\x7f]",
-        "import (?!java\\.util\\.(Arrays|ArrayList|List|Iterator|NoSuchElementException);)",
-        "catch\\s*\\([^)]*\\b(Throwable|Error|Exception|NullPointerException|ClassCastException"
-            + "|ArrayIndexOutOfBoundsException|NegativeArraySizeException|ArrayStoreException)\\b"};
+    private static final Path DOCUMENT = Path.of("../shared/DOC.md");
+    private static final int METHODS = 41, CONSTANTS = 6;
     /** Bytes that an object and its 512 dearest calls may take: far below the room that all calls of a run share. */
     private static final long ROOM = 4_000_000;
 
@@ -42,18 +27,18 @@ public final class KeyFinderFaceTest {
         }
     }
 
-    public static void main(String[] args) throws IOException {
+    public static void main(String[] args) throws Exception {
+        String face = faceOfDocument();
+        due(face.contains("public final class KeyFinder {"), "the document has no face");
         due(Modifier.isPublic(KeyFinder.class.getModifiers()), "the class is not public");
         due(Modifier.isFinal(KeyFinder.class.getModifiers()), "the class is not final");
-        methods();
-        constants();
-        for (Constructor<?> c : KeyFinder.class.getDeclaredConstructors()) {
-            due(Modifier.isPublic(c.getModifiers()) && c.getParameterCount() == 0, "another constructor: " + c);
-        }
-        for (Class<?> inner : KeyFinder.class.getDeclaredClasses()) {
-            due(Modifier.isStatic(inner.getModifiers()), inner + " is not static");
-        }
-        text();
+        due(KeyFinder.class.getSuperclass() == Object.class, "the class extends another");
+        due(KeyFinder.class.getInterfaces().length == 0, "the class implements something");
+        constructor(face);
+        methods(face);
+        constants(face);
+        innerClasses();
+        throwsNothing();
         room();
         System.out.println(wrong == 0 ? "face: as the document has it" : "face: " + wrong + " faults");
         if (wrong != 0) {
@@ -61,61 +46,146 @@ public final class KeyFinderFaceTest {
         }
     }
 
-    private static void methods() {
-        TreeSet<String> face = new TreeSet<>();
+    // ---- the face
+
+    private static String faceOfDocument() throws IOException {
+        String text = Files.readString(DOCUMENT);
+        Matcher m = Pattern.compile("## The public face\\s+```java\\n(.*?)```", Pattern.DOTALL).matcher(text);
+        return m.find() ? m.group(1) : "";
+    }
+
+    private static void constructor(String face) {
+        due(face.contains("public KeyFinder();"), "the document has another constructor");
+        Constructor<?>[] all = KeyFinder.class.getDeclaredConstructors();
+        due(all.length == 1, "there are " + all.length + " constructors");
+        for (Constructor<?> c : all) {
+            due(Modifier.isPublic(c.getModifiers()) && c.getParameterCount() == 0, "another constructor: " + c);
+            due(c.getExceptionTypes().length == 0, c + " says that it throws");
+        }
+    }
+
+    private static void methods(String face) {
+        TreeSet<String> want = new TreeSet<>();
+        Matcher m = Pattern.compile("public (int|long) (\\w+)\\(([^)]*)\\);").matcher(face);
+        while (m.find()) {
+            String types = m.group(3).replaceAll("(int|long|boolean) \\w+", "$1").replace(" ", "");
+            want.add(m.group(1) + " " + m.group(2) + "(" + types + ")");
+        }
+        due(want.size() == METHODS, "the document has " + want.size() + " methods");
         TreeSet<String> names = new TreeSet<>();
+        TreeSet<String> have = new TreeSet<>();
+        for (Method method : KeyFinder.class.getDeclaredMethods()) {
+            if (!Modifier.isPrivate(method.getModifiers()) && !method.isSynthetic()) {
+                due(method.getModifiers() == Modifier.PUBLIC, "not just public: " + method);
+                due(method.getExceptionTypes().length == 0, method + " says that it throws");
+                have.add(signatureOf(method));
+                names.add(method.getName());
+            }
+        }
+        due(have.equals(want), "methods are " + have + ", due are " + want);
+        noPrivateOfThatName(names);
+    }
+
+    private static String signatureOf(Method method) {
+        StringBuilder text = new StringBuilder(method.getReturnType() + " " + method.getName() + "(");
+        for (Class<?> p : method.getParameterTypes()) {
+            text.append(text.charAt(text.length() - 1) == '(' ? "" : ",").append(p);
+        }
+        return text.append(")").toString();
+    }
+
+    private static void noPrivateOfThatName(TreeSet<String> names) {
         for (Method m : KeyFinder.class.getDeclaredMethods()) {
-            if (Modifier.isPrivate(m.getModifiers()) || m.isSynthetic()) {
-                continue;
-            }
-            due(Modifier.isPublic(m.getModifiers()) && !Modifier.isStatic(m.getModifiers()), "not public: " + m);
-            StringBuilder text = new StringBuilder(m.getReturnType() + " " + m.getName() + "(");
-            for (Class<?> p : m.getParameterTypes()) {
-                text.append(text.charAt(text.length() - 1) == '(' ? "" : ",").append(p);
-            }
-            face.add(text.append(")").toString());
-            names.add(m.getName());
+            due(!Modifier.isPrivate(m.getModifiers()) || !names.contains(m.getName()), "a private " + m.getName());
         }
-        due(face.equals(new TreeSet<>(java.util.List.of(FACE))), "methods are " + face);
-        due(FACE.length == 41, "the face has " + FACE.length + " methods");
-        noOtherOfThatName(KeyFinder.class, names);
         for (Class<?> inner : KeyFinder.class.getDeclaredClasses()) {
-            noOtherOfThatName(inner, names);
+            for (Method m : inner.getDeclaredMethods()) {
+                due(!names.contains(m.getName()), inner.getSimpleName() + " has another " + m.getName());
+            }
         }
     }
 
-    private static void noOtherOfThatName(Class<?> owner, TreeSet<String> names) {
-        for (Method m : owner.getDeclaredMethods()) {
-            boolean isPrivate = Modifier.isPrivate(m.getModifiers());
-            due(!isPrivate || !names.contains(m.getName()), owner.getSimpleName() + " has another " + m.getName());
-            due(m.getParameterCount() <= 7, m + " takes too many");
+    private static void constants(String face) throws IllegalAccessException {
+        TreeSet<String> want = new TreeSet<>();
+        Matcher m = Pattern.compile("public static final (int|long) ([^;]*);").matcher(face);
+        while (m.find()) {
+            for (String one : m.group(2).split(",")) {
+                String value = one.trim().replace("Long.MIN_VALUE", String.valueOf(Long.MIN_VALUE));
+                want.add(m.group(1) + " " + value);
+            }
         }
-    }
-
-    private static void constants() {
-        TreeSet<String> seen = new TreeSet<>();
+        due(want.size() == CONSTANTS, "the document has " + want.size() + " constants");
+        TreeSet<String> have = new TreeSet<>();
         for (Field f : KeyFinder.class.getDeclaredFields()) {
             boolean isStatic = Modifier.isStatic(f.getModifiers());
             due(!isStatic || Modifier.isFinal(f.getModifiers()), "static and not final: " + f);
             if (!Modifier.isPrivate(f.getModifiers())) {
                 due(Modifier.isPublic(f.getModifiers()) && isStatic, "not public or not static: " + f);
-                seen.add(f.getType() + " " + f.getName());
+                have.add(f.getType() + " " + f.getName() + " = " + (isStatic ? f.get(null) : "of each object"));
             }
         }
-        due(seen.equals(new TreeSet<>(java.util.List.of(CONSTANTS))), "constants are " + seen);
+        due(have.equals(want), "constants are " + have + ", due are " + want);
     }
 
-    private static void text() throws IOException {
-        Path path = Path.of("src/main/java/KeyFinder.java");
-        if (!Files.exists(path)) {
-            return;
-        }
-        String code = Files.readString(path).replaceAll("(?s)/\\*.*?\\*/", "").replaceAll("//[^\n]*", "");
-        for (String ruled : RULED_OUT) {
-            Matcher m = Pattern.compile(ruled).matcher(code);
-            due(!m.find(), "the text has what is ruled out: " + ruled);
+    private static void innerClasses() {
+        for (Class<?> inner : KeyFinder.class.getDeclaredClasses()) {
+            due(Modifier.isStatic(inner.getModifiers()), inner + " is not static");
+            due(!Modifier.isPublic(inner.getModifiers()), inner + " is public");
+            due(!Modifier.isProtected(inner.getModifiers()), inner + " is protected");
         }
     }
+
+    // ---- nothing is thrown
+
+    /** Any arguments, in any state, behind the 512th call, too. */
+    private static void throwsNothing() throws Exception {
+        TreeSet<String> names = new TreeSet<>();
+        for (int seed = 0; seed < 40; seed++) {
+            Random random = new Random(seed);
+            KeyFinder k = new KeyFinder();
+            Method[] methods = KeyFinder.class.getMethods();
+            for (int n = 0; n < 1500; n++) {
+                Method m = methods[random.nextInt(methods.length)];
+                if (m.getDeclaringClass() == KeyFinder.class) {
+                    names.add(m.getName());
+                    callWith(k, m, random);
+                }
+            }
+        }
+        due(names.size() == METHODS, "not all methods were called: " + names);
+    }
+
+    private static void callWith(KeyFinder k, Method m, Random random) throws IllegalAccessException {
+        Object[] given = new Object[m.getParameterCount()];
+        StringBuilder told = new StringBuilder(m.getName());
+        for (int i = 0; i < given.length; i++) {
+            Class<?> type = m.getParameterTypes()[i];
+            given[i] = type == boolean.class ? (Object) random.nextBoolean()
+                    : type == long.class ? (Object) random.nextLong() : (Object) number(random);
+            told.append(' ').append(given[i]);
+        }
+        try {
+            m.invoke(k, given);
+        } catch (java.lang.reflect.InvocationTargetException e) {
+            due(false, told + " throws " + e.getCause());
+        }
+    }
+
+    private static int number(Random random) {
+        int[] edges = {-1, 8, 9, 24, 25, 40, 255, 256, 257, 1 << 30, -1 << 30, Integer.MIN_VALUE, Integer.MAX_VALUE};
+        switch (random.nextInt(12)) {
+            case 0:
+                return edges[random.nextInt(edges.length)];
+            case 1:
+                return random.nextInt(256);
+            case 2:
+                return random.nextInt();
+            default:
+                return random.nextInt(1 + random.nextInt(8));
+        }
+    }
+
+    // ---- room
 
     private static void room() {
         if (!(ManagementFactory.getThreadMXBean() instanceof com.sun.management.ThreadMXBean)) {
