@@ -11,7 +11,7 @@ import java.util.TreeSet;
 import java.util.regex.Matcher;
 import java.util.regex.Pattern;
 
-/** The face of the class is the one that the document writes out; nothing is ever thrown; calls take little room. */
+/** The face of the class is the one that the document writes out; drawn calls throw nothing and take little room. */
 public final class KeyFinderFaceTest {
     private static final Path DOCUMENT = Path.of("../shared/DOC.md");
     private static final int METHODS = 41, CONSTANTS = 6;
@@ -137,7 +137,7 @@ public final class KeyFinderFaceTest {
 
     // ---- nothing is thrown
 
-    /** Any arguments, in any state, behind the 512th call, too. */
+    /** Arguments drawn from fixed seeds, near the limits and far off, behind the 512th call, too. */
     private static void throwsNothing() throws Exception {
         TreeSet<String> names = new TreeSet<>();
         for (int seed = 0; seed < 40; seed++) {
